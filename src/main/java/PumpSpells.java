@@ -12,7 +12,8 @@ public final class PumpSpells {
     private static final int RACING = 1, SUNG = 2, FEIGNED = 3, LAST = 4, CHOIR = 5, KINDS = 6;
     private static final int[] LETTERS = {103, 114, 115, 102, 108, 99};
     private static final int[] PUMPS = {6, 9, 6, 3, 9, 7};
-    private static final int[] COSTS = {2, 4, 1, 2, 4, 1};
+    private static final int RACING_COSTS = 4;
+    private static final int[] COSTS = {2, RACING_COSTS, 1, 2, RACING_COSTS, 1};
     private static final int[] CHOKES = {1, 2, 1, 1, 2, 1};
 
     private static final int GANGS = 6, ACTS = 10, CLEAR = 6, THROW = 7, SAIL = 8, REST = 9;
@@ -65,15 +66,12 @@ public final class PumpSpells {
         if (!isRow(r)) {
             return BAD;
         }
-        Row row = rows[r];
-        if (row.isMissing()) {
-            return find(NOTHING);
+        int wrong = rows[r].findingAt(i);
+        if (wrong != 0) {
+            return find(wrong);
         }
-        if (!row.has(i)) {
-            return find(BEYOND);
-        }
-        told = row.places[i];
-        row.places[i] = v;
+        told = rows[r].places[i];
+        rows[r].places[i] = v;
         return 1;
     }
 
@@ -81,14 +79,11 @@ public final class PumpSpells {
         if (!isRow(r)) {
             return BAD;
         }
-        Row row = rows[r];
-        if (row.isMissing()) {
-            return find(NOTHING);
+        int wrong = rows[r].findingAt(i);
+        if (wrong != 0) {
+            return find(wrong);
         }
-        if (!row.has(i)) {
-            return find(BEYOND);
-        }
-        told = row.places[i];
+        told = rows[r].places[i];
         return 1;
     }
 
@@ -152,15 +147,12 @@ public final class PumpSpells {
         if (!isText(t)) {
             return BAD;
         }
-        Text text = texts[t];
-        if (text.isMissing()) {
-            return find(NOTHING);
+        int wrong = texts[t].findingAt(i);
+        if (wrong != 0) {
+            return find(wrong);
         }
-        if (!text.has(i)) {
-            return find(BEYOND);
-        }
-        int was = text.bytes[i];
-        text.bytes[i] = (byte) v;
+        int was = texts[t].bytes[i];
+        texts[t].bytes[i] = (byte) v;
         return was + 1000;
     }
 
@@ -210,7 +202,7 @@ public final class PumpSpells {
         int strength = ship.strengths[i];
         switch (kind) {
             case RACING:
-                return strength / 4;
+                return strength / RACING_COSTS;
             case SUNG:
                 return Math.max(0, strength - 3);
             case FEIGNED:
@@ -879,10 +871,11 @@ public final class PumpSpells {
         return REST;
     }
 
-    /** A ROW of ints; missing while its size is below 0. */
-    private static final class Row {
-        final int[] places = new int[PLACES];
+    /** What ROWS and TEXTS have in common: a size, below 0 while it is missing. */
+    private abstract static class Strip {
         int size = -1;
+
+        abstract int valueAt(int i);
 
         boolean isMissing() {
             return size < 0;
@@ -890,6 +883,30 @@ public final class PumpSpells {
 
         boolean has(int i) {
             return i >= 0 && i < size;
+        }
+
+        /** The FINDING for a place; 0: none. */
+        int findingAt(int i) {
+            if (isMissing()) {
+                return NOTHING;
+            }
+            return has(i) ? 0 : BEYOND;
+        }
+
+        long digestOn(long from) {
+            long h = 31 * from + size;
+            for (int i = 0; i < size; i++) {
+                h = 31 * h + valueAt(i);
+            }
+            return h;
+        }
+    }
+
+    private static final class Row extends Strip {
+        final int[] places = new int[PLACES];
+
+        int valueAt(int i) {
+            return has(i) ? places[i] : 0;
         }
 
         boolean hasRun(int i, int n) {
@@ -922,40 +939,18 @@ public final class PumpSpells {
             }
             return true;
         }
-
-        long digestOn(long from) {
-            long h = 31 * from + size;
-            for (int i = 0; i < size; i++) {
-                h = 31 * h + places[i];
-            }
-            return h;
-        }
     }
 
-    /** A TEXT of bytes; missing while its size is below 0. */
-    private static final class Text {
+    private static final class Text extends Strip {
         final byte[] bytes = new byte[BYTES];
-        int size = -1;
 
-        boolean isMissing() {
-            return size < 0;
-        }
-
-        boolean has(int i) {
-            return i >= 0 && i < size;
+        int valueAt(int i) {
+            return has(i) ? bytes[i] : 0;
         }
 
         void renew(int n) {
             size = Math.max(0, Math.min(n, BYTES));
             Arrays.fill(bytes, 0, size, (byte) BLANK);
-        }
-
-        long digestOn(long from) {
-            long h = 31 * from + size;
-            for (int i = 0; i < size; i++) {
-                h = 31 * h + bytes[i];
-            }
-            return h;
         }
     }
 
@@ -973,7 +968,7 @@ public final class PumpSpells {
                 return place;
             }
             skipBlanks();
-            for (int n = 0; n < BYTES && place < text.size; n++) {
+            for (int n = 0; n < BYTES && place < from.size; n++) {
                 if (!takesGang()) {
                     return place;
                 }
@@ -983,13 +978,13 @@ public final class PumpSpells {
         }
 
         private void skipBlanks() {
-            while (place < text.size && byteHere() == BLANK) {
+            for (int n = 0; n < BYTES && byteHere() == BLANK; n++) {
                 place++;
             }
         }
 
         private int byteHere() {
-            return text.has(place) ? text.bytes[place] : -1;
+            return text == null ? 0 : text.valueAt(place);
         }
 
         private boolean takesHull() {
