@@ -114,6 +114,7 @@ public final class GangsTest {
         Checks.due("a choir that rested", x.mark(5, 5), 2);
         Checks.due("a choir as a sung one", x.mark(5, 2), 0);
         Checks.due("a spent racing one", x.mark(1, 1), 0);
+        Checks.due("a choir counts from the first gang on", Checks.launch("w001040 s1 c2 g3").mark(1, 5), 2);
     }
 
     private static void markRefused() {

@@ -15,6 +15,7 @@ public final class HoursTest {
         undo();
         undoAndForces();
         keepAndOn();
+        keptHours();
         withoutGangs();
         Checks.end("HoursTest");
     }
@@ -169,6 +170,9 @@ public final class HoursTest {
             x.act(h % 2 == 0 ? 6 : h / 2 % 2);
         }
         Checks.dueRefused("the forty-first", x, () -> x.act(9), STATE);
+        Checks.due("the last one undone", x.undo(39), 1);
+        Checks.due("hours", Checks.told(x, 6), 39);
+        x.act(9);
         Checks.due("undone", x.undo(0), 40);
         Checks.due("WATER at first", Checks.told(x, 0), 0);
         for (int h = 0; h < 40; h++) {
@@ -275,6 +279,26 @@ public final class HoursTest {
         Checks.due("on(0) leaves rows", x.on(0), 2);
         Checks.dueRow("a row behind on()", x, 0, 5);
         Checks.due("and findings", x.findings(1), 2);
+    }
+
+    /** The hours that are undone behind on() are those of the kept one. */
+    private static void keptHours() {
+        PumpSpells x = Checks.launch(Checks.ALL_KINDS);
+        x.act(1);
+        x.act(4);
+        x.keep(1);
+        x.undo(0);
+        x.act(9);
+        x.act(9);
+        x.act(9);
+        Checks.due("on(1)", x.on(1), 2);
+        Checks.due("undo(1)", x.undo(1), 1);
+        Checks.due("WATER of the kept one's hour", Checks.told(x, 0), 27);
+        Checks.due("its STRENGTH", Checks.ofGang(x, 1, 2), 5);
+        x.act(9);
+        Checks.due("on(1) again", x.on(1), 2);
+        Checks.due("undo(0)", x.undo(0), 2);
+        Checks.due("WATER at first", Checks.told(x, 0), 30);
     }
 
     private static void withoutGangs() {

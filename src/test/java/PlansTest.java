@@ -11,6 +11,7 @@ public final class PlansTest {
         againstRun("w903114 s2 l9 f3");
         againstRun("w959003 c1");
         againstRun("w601102 g1 g9 r9 s9 f9 l1");
+        eachOnANewShip();
         ended();
         searchRefused();
         Checks.end("PlansTest");
@@ -123,6 +124,15 @@ public final class PlansTest {
             }
             Checks.dueRow("best(" + n + ") of " + text, x, 4, plan);
         }
+    }
+
+    private static void eachOnANewShip() {
+        Checks.due("firsts(1)", Checks.launch("w953002 s9 f9").firsts(1), 0b11);
+        Checks.due("firsts(2)", Checks.launch("w305104 g6 r9").firsts(2), 0b1111000011);
+        PumpSpells x = Checks.launch("w953002 s9 f9");
+        Checks.dueChance("afloat(1)", x, x.afloat(1), 2, 1);
+        x.act(0);
+        Checks.due("firsts(1) behind an hour", x.firsts(1), 0b11);
     }
 
     private static void ended() {

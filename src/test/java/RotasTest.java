@@ -10,6 +10,8 @@ public final class RotasTest {
         watchAgainstRota("w305209 g3 r5 s2");
         watchAgainstRota("w803140 l9 c9");
         watchAgainstRota("w959003 c1");
+        watchAgainstRota(Checks.ALL_KINDS);
+        watchAgainstRota("w406212 f9 g9 l9");
         lasts();
         inches();
         lighten();
@@ -72,6 +74,9 @@ public final class RotasTest {
         Checks.dueRow("watch of one", x, 3, 1);
         PumpSpells y = Checks.launch("w001140 s9 s9");
         Checks.due("the first one, by no water", y.watch(3, 2), 0);
+        PumpSpells v = Checks.launch("w031001 f9 g9");
+        Checks.due("no water behind one inch", v.watch(1, 2), 0);
+        Checks.dueRow("the second one", v, 2, 1);
         PumpSpells z = Checks.launch("w959003 c1");
         z.row(1, 2);
         Checks.due("none does", z.watch(2, 1), NONE);
@@ -150,6 +155,8 @@ public final class RotasTest {
         Checks.due("lighten is aside", x.digest(), digest);
         Checks.due("too little cargo", Checks.launch("w701109 s9").lighten(9), NONE);
         Checks.due("all of it", Checks.launch("w701209 s9").lighten(9), 2);
+        // thrown over at once they can't be thrown over again
+        Checks.due("lighten(7) of four", Checks.launch("w209409 g3").lighten(7), 3);
         Checks.due("a long way", Checks.launch("w806409 g1").lighten(9), NONE);
     }
 

@@ -101,6 +101,8 @@ public final class ToldTest {
         for (int what = 0; what <= 8; what++) {
             Checks.due("count(" + what + ")", x.count(what), counts[what]);
         }
+        Checks.due("the first gang is racing", Checks.launch("w205305 l1 s2").count(4), 1);
+        Checks.due("the first gang is sung", Checks.launch("w205305 c1 r2").count(5), 1);
         Checks.dueRefused("count(-1)", x, () -> x.count(-1), BAD);
         Checks.dueRefused("count(9)", x, () -> x.count(9), BAD);
     }
