@@ -41,6 +41,9 @@ public final class RotasTest {
         dueRota(x, 52, 4, 7, 7, 7);
         x.act(9);
         dueRota(x, 54, 3, 6);
+        PumpSpells v = Checks.launch("w001040 g9");
+        dueRota(v, 57, 40, 9, 9, 5, 9, 9);
+        Checks.due("lasts(9) of forty hours", v.lasts(9), 40);
         PumpSpells y = Checks.launch("w855009 g6");
         dueRota(y, NONE, 2, 9);
         dueRota(y, NONE, 4, 0, 9);

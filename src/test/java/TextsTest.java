@@ -82,6 +82,12 @@ public final class TextsTest {
         dueFault("w300314g6", 3);
         dueFault("w30/314g6", 3);
         dueFault("w305:14g6", 4);
+        dueFault("w:05314g6", 1);
+        dueFault("w3:5314g6", 2);
+        dueFault("w30:314g6", 3);
+        dueFault("w3053:4g6", 5);
+        dueFault("w30531:g6", 6);
+        dueFault("w305314g:", 8);
         dueFault("w3053", 5);
         dueFault("w305354g6", 5);
         dueFault("w305399g6", 5);
