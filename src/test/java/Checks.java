@@ -3,8 +3,11 @@ final class Checks {
     /** The SHIP of most tests: WATER 30, LEAK 5, CARGO 3, 14 HOURS, one GANG of each KIND. */
     static final String ALL_KINDS = "w305314 g6 r9 s4 f5 l7 c3";
 
+    private static final int[] FAR = {Integer.MIN_VALUE, Integer.MAX_VALUE};
+
     private static int wrong = 0;
     private static int made = 0;
+    private static String sentence = "";
 
     private Checks() {
     }
@@ -13,8 +16,13 @@ final class Checks {
         made++;
         if (got != want) {
             wrong++;
-            System.out.println(call + " answered " + got + ", due is " + want);
+            System.out.println(sentence + call + " answered " + got + ", due is " + want);
         }
+    }
+
+    /** What follows holds these words of the document; a wrong answer is printed behind them. */
+    static void holds(String words) {
+        sentence = "'" + words + "': ";
     }
 
     static void write(PumpSpells x, int t, String text) {
@@ -87,6 +95,21 @@ final class Checks {
         due(call + ": upper()", x.upper(), upper);
         due(call + ": lower()", x.lower(), lower);
         due(call + ": digest()", x.digest(), digest);
+    }
+
+    /** Numbers from low to high are not BAD; those below and above are, and change nothing. */
+    static void dueRange(String call, PumpSpells x, java.util.function.IntUnaryOperator made, int low, int high) {
+        dueBad(call, x, made, low - 1, high + 1);
+        dueBad(call, x, made, FAR);
+        for (int v : new int[] {low, high}) {
+            due(call + " by " + v + " is not BAD", made.applyAsInt(v) == PumpSpells.BAD ? 1 : 0, 0);
+        }
+    }
+
+    static void dueBad(String call, PumpSpells x, java.util.function.IntUnaryOperator made, int... numbers) {
+        for (int v : numbers) {
+            dueRefused(call + " by " + v, x, () -> made.applyAsInt(v), PumpSpells.BAD);
+        }
     }
 
     static int allFindings(PumpSpells x) {
