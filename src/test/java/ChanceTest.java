@@ -143,18 +143,19 @@ public final class ChanceTest {
 
     private static void chanceRefused() {
         PumpSpells x = new PumpSpells();
+        chanceBad(x);
+        Checks.dueRefused("odds without gangs", x, () -> x.odds(0, 0, 0), STATE);
+        Checks.dueRefused("mid without gangs", x, () -> x.mid(0, 0, 0), STATE);
+        PumpSpells y = Checks.launch("w953009 g6");
+        y.odds(0, 1, 3);
+        chanceBad(y);
+    }
+
+    private static void chanceBad(PumpSpells x) {
         int[][] bad = {{-1, 0, 0}, {10, 0, 0}, {0, -1, 0}, {0, 9, 0}, {0, 0, -1}, {0, 0, 13}};
-        for (int round = 0; round < 2; round++) {
-            for (int[] b : bad) {
-                Checks.dueRefused("odds", x, () -> x.odds(b[0], b[1], b[2]), BAD);
-                Checks.dueRefused("mid", x, () -> x.mid(b[0], b[1], b[2]), BAD);
-            }
-            if (round == 0) {
-                Checks.dueRefused("odds without gangs", x, () -> x.odds(0, 0, 0), STATE);
-                Checks.dueRefused("mid without gangs", x, () -> x.mid(0, 0, 0), STATE);
-                Checks.relaunch(x, "w953009 g6");
-                x.odds(0, 1, 3);
-            }
+        for (int[] b : bad) {
+            Checks.dueRefused("odds", x, () -> x.odds(b[0], b[1], b[2]), BAD);
+            Checks.dueRefused("mid", x, () -> x.mid(b[0], b[1], b[2]), BAD);
         }
     }
 

@@ -3,6 +3,9 @@ final class Checks {
     /** The SHIP of most tests: WATER 30, LEAK 5, CARGO 3, 14 HOURS, one GANG of each KIND. */
     static final String ALL_KINDS = "w305314 g6 r9 s4 f5 l7 c3";
 
+    /** So many plans or rotas are tried on one object: it is used for at most 512 calls. */
+    static final int TURN = 50;
+
     private static final int[] FAR = {Integer.MIN_VALUE, Integer.MAX_VALUE};
 
     private static int wrong = 0;

@@ -94,6 +94,9 @@ public final class PlansTest {
             int found = 0;
             int firsts = 0;
             for (int number = 0; number < most; number++) {
+                if (number % Checks.TURN == 0) {
+                    x = Checks.launch(text);
+                }
                 x.row(5, n);
                 for (int i = n - 1, left = number; i >= 0; i--, left /= 10) {
                     x.lay(5, i, left % 10);
@@ -107,6 +110,7 @@ public final class PlansTest {
                     }
                 }
             }
+            x = Checks.launch(text);
             dueFound(x, text, n, least, found);
             Checks.dueChance("afloat(" + n + ") of " + text, x, x.afloat(n), many, 1);
             if (n > 0) {

@@ -2,7 +2,7 @@ import java.lang.management.ManagementFactory;
 
 /** All calls of a run live in one room: what an object makes it makes at first, and it is little. */
 public final class RoomTest {
-    private static final int OBJECT_BYTES = 20000, CALLS = 512, CALL_BYTES = 20000;
+    private static final int OBJECT_BYTES = 20000, CALLS = 512 - 50, CALL_BYTES = 20000;
 
     public static void main(String[] args) {
         com.sun.management.ThreadMXBean room = (com.sun.management.ThreadMXBean) ManagementFactory.getThreadMXBean();
@@ -26,7 +26,7 @@ public final class RoomTest {
         return x;
     }
 
-    /** As many calls as an object is used for, no dear one left out. */
+    /** As many calls as an object is used for, with those of ship(); no dear one left out. */
     private static void dearest(PumpSpells x) {
         for (int n = 0; n + 24 <= CALLS; n += 24) {
             x.best(4, 2);

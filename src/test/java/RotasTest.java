@@ -95,6 +95,9 @@ public final class RotasTest {
             int least = NONE;
             int[] found = new int[n];
             for (int number = 0; number < most; number++) {
+                if (number % Checks.TURN == 0) {
+                    x = Checks.launch(text);
+                }
                 int[] acts = new int[n];
                 for (int i = n - 1, left = number; i >= 0; i--, left /= 10) {
                     acts[i] = left % 10;
@@ -106,8 +109,9 @@ public final class RotasTest {
                     found = acts;
                 }
             }
+            x = Checks.launch(text);
             long digest = x.digest();
-            Checks.due("watch(" + n + ", 5) of " + text, x.watch(n, 4), least);
+            Checks.due("watch(" + n + ", 4) of " + text, x.watch(n, 4), least);
             if (least == NONE) {
                 Checks.due("watch is aside", x.digest(), digest);
             } else {

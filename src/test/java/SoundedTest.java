@@ -196,26 +196,28 @@ public final class SoundedTest {
         Checks.dueRefused("feigns(0) without gangs", x, () -> x.feigns(0), STATE);
         Checks.dueRefused("leaks(0) without gangs", x, () -> x.leaks(0), STATE);
         Checks.dueRefused("kinds(0, 0) without gangs", x, () -> x.kinds(0, 0), BAD);
+        findingsOfPairs();
         Checks.relaunch(x, "w305114 g6 f5");
         Checks.dueRefused("kinds(-1, 0)", x, () -> x.kinds(-1, 0), BAD);
         Checks.dueRefused("kinds(2, 0)", x, () -> x.kinds(2, 0), BAD);
         Checks.dueRefused("kinds(0, -1)", x, () -> x.kinds(0, -1), BAD);
         Checks.dueRefused("kinds(0, 6)", x, () -> x.kinds(0, 6), BAD);
-        dueFindings(x, NOTHING);
-        Checks.fill(x, 0, 77);
-        dueFindings(x, SIZE);
-        Checks.fill(x, 0, 9, 36, 10);
-        dueFindings(x, SIZE);
-        Checks.fill(x, 0, 9, 1, 10, 1);
-        dueFindings(x, UNLIKE);
-        Checks.fill(x, 0, -1, 30);
-        dueFindings(x, UNLIKE);
-        Checks.fill(x, 0, 2, 30);
-        dueFindings(x, UNLIKE);
-        Checks.fill(x, 0, 7, 36, 7, 42);
-        dueFindings(x, UNLIKE);
-        Checks.fill(x, 0, 8, 36, 8, 39);
-        dueFindings(x, UNLIKE);
+    }
+
+    private static void findingsOfPairs() {
+        dueFindings(Checks.launch("w305114 g6 f5"), NOTHING);
+        int[][] sizes = {{77}, {9, 36, 10}};
+        int[][] unlike = {{9, 1, 10, 1}, {-1, 30}, {2, 30}, {7, 36, 7, 42}, {8, 36, 8, 39}};
+        for (int[] pairs : sizes) {
+            PumpSpells x = Checks.launch("w305114 g6 f5");
+            Checks.fill(x, 0, pairs);
+            dueFindings(x, SIZE);
+        }
+        for (int[] pairs : unlike) {
+            PumpSpells x = Checks.launch("w305114 g6 f5");
+            Checks.fill(x, 0, pairs);
+            dueFindings(x, UNLIKE);
+        }
     }
 
     private static void dueFindings(PumpSpells x, int finding) {

@@ -2,7 +2,9 @@ import java.util.Random;
 
 /** Long runs of calls by lots, wild numbers among them: each answer is the one that Model gives. */
 public final class StormTest {
-    private static final int RUNS = 400, CALLS = 512, NAMES = 43;
+    private static final int RUNS = 1200, CALLS = 512, NAMES = 43;
+    /** At most so many calls are made by pairs that come true, by one turn, and by looking at all at last. */
+    private static final int PAIRS = 30, TURN = 70, LAST = 10;
     private static final int[] WILD = {Integer.MIN_VALUE, Integer.MAX_VALUE, -2, -1, 0, 1, 5, 6, 7, 9, 10, 12, 13, 40, 41, 60, 61};
 
     private final Random lots;
@@ -11,6 +13,7 @@ public final class StormTest {
     private final StringBuilder told = new StringBuilder();
     private long got;
     private long want;
+    private int used = 0;
 
     private StormTest(long seed) {
         lots = new Random(seed);
@@ -25,12 +28,14 @@ public final class StormTest {
     }
 
     private void run(int run) {
-        for (int n = 0; n < CALLS; n++) {
-            if (n == 0 || lots.nextInt(60) == 0) {
-                n += launch();
+        while (used + TURN + LAST <= CALLS) {
+            if (used == 0 || lots.nextInt(60) == 0) {
+                used += launch();
             }
+            // value() asks the object once, and one turn makes two calls
+            used += 2;
             call(lots.nextInt(NAMES));
-            Checks.due("run " + run + ", call " + n + " " + told, got, want);
+            Checks.due("run " + run + ", call " + used + " " + told, got, want);
             if (got != want) {
                 return;
             }
@@ -195,6 +200,7 @@ public final class StormTest {
         int small = lots.nextInt(8) == 0 ? some(6) : lots.nextInt(3);
         say("rotas " + name, a, b, c, small);
         if (name >= 31 && lots.nextInt(4) != 0) {
+            used += PAIRS;
             soundPairs();
         }
         switch (name) {
