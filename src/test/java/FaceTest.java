@@ -28,12 +28,30 @@ public final class FaceTest {
         + "|instanceof|Iterator|Thread|Exact|volatile|native|finalize|->|::";
 
     public static void main(String[] args) throws Exception {
+        document();
         methods();
         constants();
         others();
         nested();
         source();
         Checks.end("FaceTest");
+    }
+
+    /** FACE and CONSTANTS are all that the document's own face has, and nothing beside it. */
+    private static void document() {
+        String face = Doc.section("The public face");
+        Checks.due("the class in the document", face.startsWith("public final class PumpSpells {") ? 1 : 0, 1);
+        Set<String> signs = new TreeSet<>();
+        Matcher m = Pattern.compile("public (int|long) (\\w+)\\(([^)]*)\\);").matcher(face);
+        while (m.find()) {
+            signs.add(m.group(1) + " " + m.group(2) + "(" + m.group(3).replaceAll("int \\w+", "int") + ")");
+        }
+        Checks.due("methods of the document " + signs, signs.equals(Set.of(FACE)) ? 1 : 0, 1);
+        for (String name : CONSTANTS) {
+            Checks.due("the document has " + name, face.contains(" " + name + " = ") ? 1 : 0, 1);
+        }
+        // the class itself, its constants, its constructor, then its methods
+        Checks.due("what is public in the document", face.split("public ", -1).length - 1, FACE.length + 3);
     }
 
     private static void methods() {
